@@ -845,11 +845,10 @@ public final class SungAsleep {
             setDebt(who, whom, debt(who, whom) - by);
         }
 
-        /** The first who closes a ring with these two, or -1. */
+        /** The first who closes a ring with these two, or -1; nobody owes oneself, so the three are unlike. */
         int thirdOfRing(int first, int second) {
             for (int third = 0; third < size; third++) {
-                boolean unlike = third != first && third != second && first != second;
-                if (unlike && debt(second, third) > 0 && debt(third, first) > 0) return third;
+                if (debt(second, third) > 0 && debt(third, first) > 0) return third;
             }
             return -1;
         }
@@ -1005,8 +1004,8 @@ public final class SungAsleep {
 
         void layPlan() {
             int set = awake;
-            planSize = songs[set];
-            for (int i = 0; i < planSize && i < PEOPLE; i++) {
+            planSize = Math.min(PEOPLE, songs[set]);
+            for (int i = 0; i < planSize; i++) {
                 laySong(i, set);
                 set &= ~planWhom[i];
             }
@@ -1032,7 +1031,7 @@ public final class SungAsleep {
 
         int planLast() {
             int set = awake;
-            for (int i = 0; i < planSize && i < PEOPLE; i++) set &= ~planWhom[i];
+            for (int i = 0; i < planSize; i++) set &= ~planWhom[i];
             return set == 0 ? NO_SUCH : Integer.numberOfTrailingZeros(set);
         }
     }

@@ -93,6 +93,8 @@ public final class ValleyTest {
         fault("5", 0);
         fault("  ol", 2);
         fault("oldy 5;", 0);
+        fault("oldz 5;", 0);
+        fault("olda 5;", 0);
         fault("Old 5;", 0);
         fault("oLd 5;", 0);
         fault("\told 5;", 0);
