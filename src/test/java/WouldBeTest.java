@@ -5,6 +5,7 @@ public final class WouldBeTest {
     public static void main(String[] args) {
         nobodyAndOne();
         leastAndPlan();
+        eight();
         planWants();
         fewestSongs();
         cantBeOver();
@@ -51,6 +52,30 @@ public final class WouldBeTest {
         x.sing(0, 2);
         CHECK.due("from now on", x.least(), 40);
         CHECK.due("minute isn't told", x.night(0), 20);
+    }
+
+    private static void eight() {
+        SungAsleep x = Check.told("sleeper 80;sleeper 70;sleeper 60;sleeper 50;sleeper 40;sleeper 30;sleeper 20;sleeper 10;");
+        CHECK.due("70, 40 and 10", x.least(), 120);
+        CHECK.due("tent", x.tent(), 120);
+        CHECK.due("songs", x.plan(0), 3);
+        int[] plan = {0, 14, 0, 112, 0, 128};
+        for (int i = 0; i < 3; i++) {
+            CHECK.due("singer " + i, x.plan(10 + i), plan[2 * i]);
+            CHECK.due("whom " + i, x.plan(20 + i), plan[2 * i + 1]);
+        }
+        CHECK.due("last", x.last(), 1);
+        CHECK.due("hoarse", x.hoarse(), 70);
+        CHECK.due("without 0: 60, 30", x.dearest(), 0);
+        SungAsleep deaf = Check.told("deaf 1;deaf 2;deaf 3;deaf 4;deaf 5;deaf 6;deaf 7;deaf 8;");
+        CHECK.due("one by one", deaf.least(), 63);
+        CHECK.due("seven songs", deaf.plan(0), 7);
+        CHECK.due("0 sings as long as it can be awake", deaf.plan(15), 0);
+        CHECK.due("the seventh is to it", deaf.plan(26), 1);
+        CHECK.due("no eighth", deaf.plan(17), -3);
+        CHECK.due("seven rows", deaf.prove(), 7);
+        CHECK.due("the last minute", deaf.row(6, 2), 63);
+        CHECK.due("all right", deaf.judge(), 0);
     }
 
     private static void planWants() {
