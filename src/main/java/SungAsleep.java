@@ -408,9 +408,9 @@ public final class SungAsleep {
         if (!isPlace(shelf) || !asKind && !asSort) return BAD;
         Sleeper p = now.at(shelfPeople[shelf]);
         Row row = shelfRows[shelf];
-        if (p == null && row == null) return NOTHING;
         if (p != null) return asKind && isOfKind(p, as) ? p.number : OTHER;
-        return asSort && row.sort == as - 10 ? row.items.length : OTHER;
+        if (row != null) return asSort && row.sort == as - 10 ? row.items.length : OTHER;
+        return NOTHING;
     }
 
     public int act(int shelf, int act, int x) {
