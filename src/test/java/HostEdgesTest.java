@@ -13,6 +13,7 @@ public final class HostEdgesTest {
         itemSorts();
         itemPlaces();
         itemAsLowAsRefusals();
+        shelvesAtFirst();
         shelfHolds();
         shelfOfNobodyAnyMore();
         shelfOfARow();
@@ -128,6 +129,14 @@ public final class HostEdgesTest {
     private static void itemAsLowAsRefusals() {
         int[] low = {-1, -11, -12, -13, -14, -15};
         for (int v : low) Scene.NEW.then("sheet(0, 0, 1)", "put(0, 0, " + v + ")").asks("item(0, 0, 0)", v);
+    }
+
+    /** Terms: SHELVES 0 to 3 hold "nothing (at first)", whoever is there, and whatever the SHEETS have. */
+    private static void shelvesAtFirst() {
+        Scene x = new Scene("tell old 1;old 1;old 1;old 1;", "sheet(0, 0, 5)", "sheet(3, 3, 5)");
+        for (int shelf = 0; shelf < 4; shelf++) {
+            x.refuses("taken(" + shelf + ", 0)", -11).refuses("taken(" + shelf + ", 10)", -11).answers("act(" + shelf + ", 0, 5)", 0);
+        }
     }
 
     /** Promise 39: "A SHELF holds PERSON n (what 0), the row of SHEET n (1 ..), nothing (2): 1. BAD: no such SHELF, what, thing". */
@@ -286,6 +295,10 @@ public final class HostEdgesTest {
         bodies(THREE.then("act(0, 0, 5)"), 10);
         bodies(THREE.then("act(0, 3, 5)", "act(0, 0, 5)"), 10);
         bodies(THREE.then("act(0, 0, 5)", "act(0, 3, 5)"), 13, 11, 10);
+        bodies(THREE.then("turn(2, 1)", "act(0, 3, 5)"), 13, 20, 11, 10);
+        bodies(THREE.then("turn(2, 2)", "act(0, 3, 5)"), 31, 13, 11, 30, 10, 12);
+        bodies(THREE.then("turn(2, 3)", "act(0, 3, 5)"), 13, 20, 11, 51, 10);
+        bodies(THREE.then("turn(2, 5)", "act(0, 3, 5)"), 60, 13, 11, 10);
         bodies(THREE.then("turn(2, 5)", "act(0, 2, 5)"), 61, 12, 10);
         bodies(THREE.then("turn(2, 4)", "act(0, 1, 5)"), 41, 11, 40, 30, 10, 40, 30, 10);
         // nothing but act() changes it

@@ -129,6 +129,10 @@ public final class NightsEdgesTest {
         x.answers("owed(1, 0)", 5).answers("owed(2, 0)", 62).answers("owed(5, 0)", 12).answers("owed(3, 0)", 0);
         x.answers("owed(0, 1)", 12).answers("owed(0, 2)", 0).answers("personOf(0, 7)", 100070);
         for (int i = 1; i < 6; i++) x.answers("personOf(" + i + ", 4)", 0);
+        // the shortest song there is, of one minute
+        Scene one = new Scene("tell old 5 voice 1;sleeper 1;child 1;").asks("may(0, 2)", 1).answers("sing(0, 6)", 1);
+        Scene sung = one.then("sing(0, 6)");
+        sung.answers("night(0)", 1).answers("night(1)", 1).answers("personOf(0, 4)", 1).answers("owed(1, 0)", 1).answers("owed(2, 0)", 1);
     }
 
     /** Terms: "the last one awake never sleeps that night". */

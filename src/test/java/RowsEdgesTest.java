@@ -127,6 +127,11 @@ public final class RowsEdgesTest {
         for (String singer : singers) x.then("alterRow(0, 0, " + singer + ")").asks("judge()", 1);
         String[] sets = {"0", "1", "64", "66", "16", "18", "10", "46", "-1", "MIN", "MAX"};
         for (String whom : sets) x.then("alterRow(0, 1, " + whom + ")").asks("judge()", 1);
+        // a MINUTE as if the refusal were added makes it no better
+        x.then("alterRow(0, 0, -1)", "alterRow(0, 2, 24)").asks("judge()", 1);
+        x.then("alterRow(0, 1, 0)", "alterRow(0, 2, 24)").asks("judge()", 1);
+        x.then("alterRow(0, 1, 1)", "alterRow(0, 2, 21)").asks("judge()", 1);
+        x.then("alterRow(0, 1, 10)", "alterRow(0, 2, 25)").asks("judge()", 1);
         // who was sung to sleep by the row before can't sing, nor be sung to
         x.then("alterRow(1, 0, 1)").asks("judge()", 2).then("alterRow(1, 0, 0)").asks("judge()", 2);
         x.then("alterRow(1, 1, 38)").asks("judge()", 2).then("alterRow(1, 1, 2)").asks("judge()", 2);

@@ -289,6 +289,11 @@ public final class ValleyEdgesTest {
         fault("old 5 voic 3;", 6);
         fault("old 5 purses 3;", 6);
         fault("old 5 purs 3;", 6);
+        fault("old 5 xoice 3;", 6);
+        fault("old 5 voicx 3;", 6);
+        fault("old 5 xurse 3;", 6);
+        fault("old 5;old 6;xwes 0 1 2;", 12);
+        fault("old 5;old 6;xsleep 0;", 12);
         fault("old 5;old 6;owe 0 1 2;", 12);
         fault("old 5;old 6;owess 0 1 2;", 12);
         fault("old 5;old 6;aslee 0;", 12);
@@ -297,6 +302,7 @@ public final class ValleyEdgesTest {
             fault(kind.substring(1) + " 5;", 0);
             fault(kind.substring(0, kind.length() - 1) + " 5;", 0);
             fault(kind + "s 5;", 0);
+            for (int i = 0; i < kind.length(); i++) fault(kind.substring(0, i) + "x" + kind.substring(i + 1) + " 5;", 0);
         }
     }
 

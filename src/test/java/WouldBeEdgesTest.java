@@ -27,6 +27,7 @@ public final class WouldBeEdgesTest {
         dearestOfZero();
         hoarse();
         tent();
+        oneQuestionBehindAnother();
         seed();
         drawOfNobody();
         drawPlaces();
@@ -77,6 +78,9 @@ public final class WouldBeEdgesTest {
     private static void leastOfEight() {
         ALL_SLEEPERS.answers("least()", 70 + 40 + 10);
         ALL_DEAF.answers("least()", 6 + 7 + 8 + 9 + 10 + 11 + 12);
+        // the three of the least and of the highest numbers
+        new Scene("tell sleeper 50;sleeper 50;sleeper 50;sleeper 9;sleeper 9;sleeper 9;sleeper 9;sleeper 90;").answers("least()", 68);
+        new Scene("tell sleeper 90;sleeper 9;sleeper 9;sleeper 9;sleeper 9;sleeper 50;sleeper 50;sleeper 50;").answers("least()", 68);
         new Scene("tell sleeper 10;sleeper 20;sleeper 30;sleeper 40;").answers("least()", 30);
         new Scene("tell sleeper 10;sleeper 20;sleeper 30;sleeper 40;sleeper 50;").answers("least()", 50);
         Scene oldest = new Scene("tell deaf 90;deaf 90;deaf 90;deaf 90;deaf 90;deaf 90;deaf 90;deaf 90;");
@@ -306,6 +310,20 @@ public final class WouldBeEdgesTest {
         new Scene("tell sleeper 9 voice 0;sleeper 8 voice 0;sleeper 7 voice 0;sleeper 6 voice 0;").asks("tent()", 8);
         new Scene("tell sleeper 9 voice 0;sleeper 8 voice 0;sleeper 7 voice 0;sleeper 6 voice 0;sleeper 5 voice 0;").asks("tent()", 13);
         new Scene("tell deaf 9 voice 0;deaf 8 voice 0;sleeper 7;").asks("tent()", 20);
+    }
+
+    /** Promises 19 to 28, "All from now on": no question depends on those before, with or without a change in between. */
+    private static void oneQuestionBehindAnother() {
+        String[] questions = {"least()", "plan(0)", "plan(10)", "plan(21)", "last()", "with(0)", "with(2)", "silent(0)", "silent(3)",
+            "ways()", "inTurn()", "dearest()", "hoarse()", "tent()", "prove()"};
+        String[] changes = {"many(0)", "sing(2, 2)", "wake(4)", "voice(3, 44)", "turn(3, 2)", "turn(1, 4)", "person(4, 3)", "day()",
+            "again()", "older()", "sheet(0, 0, 5)"};
+        for (String change : changes) {
+            for (String second : questions) {
+                int due = Scene.answer(Scene.MIDST.then(change).made(), second);
+                for (String first : questions) Scene.MIDST.then(first, change).answers(second, due);
+            }
+        }
     }
 
     /** Promise 29: "z becomes v: what it was": any int, so that an answer below 0 is no refusal. */
