@@ -7,6 +7,7 @@ import java.nio.file.Path;
 import java.util.Arrays;
 import java.util.Set;
 import java.util.TreeSet;
+import java.util.regex.Matcher;
 import java.util.regex.Pattern;
 
 /** The public face, and those rules of the language that can be read off the class and its source. */
@@ -96,5 +97,37 @@ public final class FaceTest {
             CHECK.holds("no '" + word + "' in the source", !Pattern.compile(form).matcher(code).find());
         }
         CHECK.holds("signs 1 to 127", text.chars().allMatch(c -> c > 0 && c < 128));
+        library(code);
+        methodsAreShort(code);
+    }
+
+    /** Of the library's classes only these are named, and of them only these. */
+    private static void library(String code) {
+        Set<String> free = Set.of("Integer.bitCount", "Integer.numberOfTrailingZeros", "Math.min", "Math.max",
+            "System.arraycopy");
+        Matcher m = Pattern.compile("\\b(Integer|Long|Math|System|Arrays|String|Character|Byte|Short)\\.\\w+").matcher(code);
+        while (m.find()) CHECK.holds(m.group() + " may be used", free.contains(m.group()));
+    }
+
+    private static void methodsAreShort(String code) {
+        Pattern header = Pattern.compile("( {4}| {8})(?!for|if|while|switch|else|do)\\w.*\\) \\{");
+        String end = "";
+        int length = 0;
+        int methods = 0;
+        for (String line : code.split("\n")) {
+            Matcher m = header.matcher(line);
+            if (end.isEmpty() && m.matches()) {
+                end = m.group(1) + "}";
+                length = 0;
+                methods++;
+            }
+            length++;
+            if (line.equals(end)) {
+                CHECK.holds("a method of " + length + " lines", length <= 60);
+                end = "";
+            }
+            CHECK.holds("a line of at most 120 signs", line.length() <= 120);
+        }
+        CHECK.holds("methods were found: " + methods, methods > 100);
     }
 }
